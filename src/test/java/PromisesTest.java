@@ -25,6 +25,7 @@ public final class PromisesTest {
         guessesThatShare();
         guessOfErrors();
         guessNames();
+        guessNameByStyle();
         claim();
         claimErrors();
         bestGuesses();
@@ -128,6 +129,16 @@ public final class PromisesTest {
         due("next of the last page", desk.pageOf(28, 4), MISSING);
 
         fresh();
+        desk.write(0, 1, 12, 2);
+        desk.write(1, 1, 12, 2);
+        desk.write(2, 1, 12, 2);
+        due("write falling to page 0", desk.write(3, 1, 4, 2), 3);
+        pages("falling to page 0", 3, 3, 2, 1, 0);
+        desk.delete(3);
+        due("a guess falling to page 0", desk.guessOf(0, 13), 0);
+        due("wholly by the chain", desk.guessOf(0, 5), 3);
+
+        fresh();
         for (int name = 0; name < 20; name++) {
             desk.write(name, 1, 2, 0);
         }
@@ -213,6 +224,11 @@ public final class PromisesTest {
         due("wipe 40", desk.wipe(40), INVALID);
         due("wipe least", desk.wipe(LOW), INVALID);
         due("wipe most", desk.wipe(HIGH), INVALID);
+        fresh();
+        desk.write(0, 3, 3, 0);
+        desk.wipe(39);
+        due("undo wiping", desk.undo(), 1);
+        due("the file is there", desk.count(1), 1);
     }
 
     private static void wipeAll() {
@@ -222,7 +238,9 @@ public final class PromisesTest {
         desk.delete(0);
         due("wipeAll", desk.wipeAll(), 3);
         due("the journal is empty", desk.count(4), 0);
-        due("no entry", desk.journalOf(0, 0), MISSING);
+        for (int what = 0; what <= 2; what++) {
+            due("no entry " + what, desk.journalOf(0, what), MISSING);
+        }
         due("nothing on free pages", desk.count(2), 0);
         due("pages of files stay", desk.pageOf(3, 3), 5);
         due("wipeAll again", desk.wipeAll(), 0);
@@ -259,6 +277,7 @@ public final class PromisesTest {
         desk.delete(3);
         desk.write(5, 1, 4, 0);
         due("a gap before the last", desk.fileOf(5, 4), 0);
+        fileOfTwelve();
         int[] bad = {LOW, -1, 5, 9, 22, HIGH};
         for (int what : bad) {
             due("fileOf what " + what, desk.fileOf(4, what), INVALID);
@@ -268,6 +287,18 @@ public final class PromisesTest {
         due("fileOf 30", desk.fileOf(30, 0), INVALID);
         due("no such file", desk.fileOf(20, 0), MISSING);
         due("no page of no such file", desk.fileOf(20, 10), MISSING);
+    }
+
+    private static void fileOfTwelve() {
+        fresh();
+        desk.write(0, 1, 11, 0);
+        desk.write(1, 1, 1, 0);
+        desk.delete(0);
+        desk.write(2, 1, 12, 0);
+        pages("over a gap", 2, 0, 1, 2, 3, 4, 5, 6, 7, 8, 9, 10, 12);
+        due("the last of twelve is not right behind", desk.fileOf(2, 4), 0);
+        desk.write(4, 1, 12, 0);
+        due("twelve in order", desk.fileOf(4, 4), 1);
     }
 
     private static void pageOf() {
@@ -312,6 +343,9 @@ public final class PromisesTest {
             desk.delete(name);
         }
         due("the oldest of 6", desk.journalOf(5, 0), 0);
+        for (int what = 0; what <= 2; what++) {
+            due("beyond 6: " + what, desk.journalOf(6, what), MISSING);
+        }
         desk.delete(6);
         for (int k = 0; k < 6; k++) {
             due("name " + k, desk.journalOf(k, 0), 6 - k);
@@ -543,6 +577,23 @@ public final class PromisesTest {
         due("a claim under another", desk.claim(2, 0), 1);
     }
 
+    private static void guessNameByStyle() {
+        fresh();
+        desk.write(0, 1, 3, 0);
+        desk.delete(0);
+        desk.write(1, 2, 1, 2);
+        for (int k = 0; k < 6; k++) {
+            desk.delete(1);
+            desk.write(1, 2, 1, 2);
+        }
+        due("its entry is gone", desk.guessOf(0, 4), MISSING);
+        desk.write(2, 1, 1, 2);
+        desk.delete(2);
+        due("the guess of the first file", desk.guessOf(0, 10), 0);
+        due("the latest entry has its style", desk.guessOf(0, 4), 2);
+        due("which does not score", desk.guessOf(0, 0), 130);
+    }
+
     private static void claim() {
         fresh();
         desk.write(0, 3, 5, 0);
@@ -617,6 +668,14 @@ public final class PromisesTest {
         due("is not in the best", desk.bestGuesses(0), 1);
         due("nor in the sum", desk.bestGuesses(1), 25);
         due("but in the sum of all", desk.count(5), 2984);
+
+        // 10 - 24 + 15
+        fresh();
+        desk.write(0, 3, 5, 0);
+        desk.delete(0);
+        desk.wipe(1);
+        due("a score of 1", desk.bestGuesses(1), 1);
+        due("is taken", desk.bestGuesses(0), 1);
 
         // with a score of 0 the set is lower without it: 10 + 10 + 10 - 30, its entry pushed out of the journal
         fresh();
@@ -735,7 +794,10 @@ public final class PromisesTest {
             due("count " + what, desk.count(what), counts[what]);
         }
         desk.wipe(1);
-        due("free pages with something", desk.count(2), 2);
+        due("the sum of the scores", desk.count(5), 3013);
+        desk.wipe(0);
+        due("guesses", desk.count(3), 0);
+        due("free pages with something", desk.count(2), 1);
         due("count -1", desk.count(-1), INVALID);
         due("count 13", desk.count(13), INVALID);
         due("count least", desk.count(LOW), INVALID);
@@ -767,6 +829,18 @@ public final class PromisesTest {
         }
         due("the oldest ones are dropped", desk.undo(), IMPOSSIBLE);
         due("nothing changed", desk.count(1), 2);
+
+        fresh();
+        for (int name = 0; name < 12; name++) {
+            desk.write(name, 1, 1, 0);
+            desk.delete(29);
+            desk.fault(0);
+        }
+        for (int left = 3; left >= 0; left--) {
+            due("undo after many", desk.undo(), left);
+            due("files after many", desk.count(1), left + 8);
+            desk.write(0, 1, 1, 0);
+        }
 
         fresh();
         desk.write(0, 3, 3, 0);
@@ -890,6 +964,12 @@ public final class PromisesTest {
         faulty("w0,1,1;d0;w0,2,1;c0;", 17, 3);
         faulty("w0,1,2;d0;w0,2,1;c0;", 17, 3);
         due("nothing was done", desk.count(6), 0);
+        due("undo", desk.undo(), IMPOSSIBLE);
+        desk.write(0, 5, 2, 2);
+        faulty("z0;w1,1,1;d0;d0;", 13, 3);
+        faulty("d0;d1;", 3, 3);
+        due("the file is there", desk.fileOf(0, 1), 2);
+        desk.undo();
         due("no state", desk.count(11), 0);
         desk.write(0, 5, 2, 2);
         desk.delete(0);
@@ -926,7 +1006,10 @@ public final class PromisesTest {
         due("once more", desk.play(), 6);
         played("z9;z9;z9;z9;z9;z9;z9;z9;z9;z9;z9;z9;z9;z9;z9;z9;z9;z9;z9;z9;", 20);
         played("z9;w7,1,3;", 2);
-        pages("by layout 0", 7, 2, 3, 4);
+        pages("into a run", 7, 2, 3, 4);
+        desk.delete(0);
+        played("w8,1,3;", 1);
+        pages("by layout 0", 8, 0, 1, 5);
     }
 
     private static void errorsChangeNothing() {
