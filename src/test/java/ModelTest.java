@@ -4,7 +4,8 @@ import java.util.Random;
 
 /** Long runs of calls with a fixed seed, each answer compared with that of the model. */
 public final class ModelTest {
-    private static final int RUNS = 1500;
+    private static final int RUNS = 500;
+    /** Some of these are followed by many more, beyond what an object is used for: the class does not mind. */
     private static final int CALLS = 512;
 
     private final Random random;
@@ -14,14 +15,17 @@ public final class ModelTest {
     /** Styles and lengths are drawn from few values in some runs, so that guesses meet. */
     private final int styles;
     private final int longest;
+    /** In some runs little is wiped, claimed and undone, so that there are many guesses. */
     private final int wiping;
+    private final boolean keeping;
     private boolean wrong;
 
     private ModelTest(int seed) {
         random = new Random(seed);
         styles = 1 + random.nextInt(3) * random.nextInt(4);
-        longest = 1 + random.nextInt(12);
+        longest = 1 + random.nextInt(random.nextBoolean() ? 4 : 12);
         wiping = 1 + random.nextInt(12);
+        keeping = random.nextBoolean();
     }
 
     public static void main(String[] args) {
@@ -41,6 +45,12 @@ public final class ModelTest {
         for (int call = 0; call < CALLS && !wrong; call++) {
             if (call % 97 == 96) {
                 compareAll();
+            } else if (keeping && call % 97 == 90) {
+                if (random.nextBoolean()) {
+                    fillAndDelete();
+                } else {
+                    interleave();
+                }
             } else {
                 anyCall();
             }
@@ -78,18 +88,34 @@ public final class ModelTest {
         return random.nextInt(8) == 0 ? draw(1, 12) : 1 + random.nextInt(longest);
     }
 
+    /** Mostly the name of a file that is there, or of one that is not. */
+    private int drawName(boolean there) {
+        int name = draw(0, 29);
+        for (int k = 0; k < 30 && random.nextInt(20) != 0 && model.fileOf(name, 0) >= 0 != there; k++) {
+            name = draw(0, 29);
+        }
+        return name;
+    }
+
+    private int drawPage(boolean free) {
+        int page = draw(0, 39);
+        for (int k = 0; k < 30 && random.nextInt(20) != 0 && model.pageOf(page, 0) == 1 != free; k++) {
+            page = draw(0, 39);
+        }
+        return page;
+    }
+
     private void anyCall() {
         int kind = random.nextInt(100);
         if (kind < 20) {
-            write(draw(0, 29), drawStyle(), drawLength(), draw(0, 2));
+            write(drawName(false), drawStyle(), drawLength(), draw(0, 2));
         } else if (kind < 36) {
-            int name = draw(0, 29);
-            for (int k = 0; k < 6 && model.fileOf(name, 0) < 0; k++) {
-                name = draw(0, 29);
-            }
+            int name = drawName(true);
             due("delete " + name, desk.delete(name), model.delete(name));
+        } else if (keeping && kind < 61 && random.nextInt(8) != 0) {
+            question();
         } else if (kind < 36 + wiping) {
-            int page = draw(0, 39);
+            int page = drawPage(true);
             due("wipe " + page, desk.wipe(page), model.wipe(page));
         } else if (kind < 49) {
             if (random.nextInt(8) == 0) {
@@ -110,13 +136,75 @@ public final class ModelTest {
         }
     }
 
+    /** Many guesses at once, of which some are wiped, overwritten or cut short then. */
+    private void fillAndDelete() {
+        for (int k = 0; k < 25; k++) {
+            write(drawName(false), drawStyle(), drawLength(), draw(0, 2));
+        }
+        for (int name = 0; name < 30; name++) {
+            if (random.nextInt(6) != 0) {
+                due("delete " + name, desk.delete(name), model.delete(name));
+            }
+        }
+        for (int k = random.nextInt(4); k > 0; k--) {
+            int name = drawName(false);
+            write(name, drawStyle(), drawLength(), draw(0, 2));
+            due("delete " + name, desk.delete(name), model.delete(name));
+        }
+        for (int k = random.nextInt(4); k > 0; k--) {
+            int page = drawPage(true);
+            due("wipe " + page, desk.wipe(page), model.wipe(page));
+        }
+    }
+
+    /**
+     * Files in the gaps of others: when pages are wiped after all are deleted, the guesses go on at neighbors,
+     * and share pages.
+     */
+    private void interleave() {
+        deleteSome(1);
+        due("wipeAll", desk.wipeAll(), model.wipeAll());
+        int style = drawStyle();
+        int singles = 10 + random.nextInt(16);
+        for (int name = 0; name < singles; name++) {
+            write(name, style, 1, 0);
+        }
+        for (int round = 0; round < 2; round++) {
+            for (int name = 0; name < singles; name++) {
+                if (model.fileOf(name, 0) >= 0 && (round == 1 || random.nextBoolean())) {
+                    due("delete " + name, desk.delete(name), model.delete(name));
+                }
+            }
+            for (int k = 1 + random.nextInt(4); k > 0; k--) {
+                write(25 + random.nextInt(5), style, 2 + random.nextInt(5), 0);
+            }
+        }
+        deleteSome(random.nextInt(10) == 0 ? 2 : 1);
+        for (int k = random.nextInt(9); k > 0; k--) {
+            int page = random.nextInt(singles + 6);
+            if (model.pageOf(page, 1) == 2) {
+                due("wipe " + page, desk.wipe(page), model.wipe(page));
+            }
+        }
+        compareAll();
+    }
+
+    /** Deletes one of so many of the files. */
+    private void deleteSome(int of) {
+        for (int name = 0; name < 30; name++) {
+            if (model.fileOf(name, 0) >= 0 && random.nextInt(of) == 0) {
+                due("delete " + name, desk.delete(name), model.delete(name));
+            }
+        }
+    }
+
     private void write(int name, int style, int length, int layout) {
         due("write " + name + " " + style + " " + length + " " + layout,
                 desk.write(name, style, length, layout), model.write(name, style, length, layout));
     }
 
     private void typeSome() {
-        if (random.nextInt(3) == 0) {
+        if (random.nextInt(4) != 0) {
             due("clearText", desk.clearText(), model.clearText());
         }
         StringBuilder text = new StringBuilder();
@@ -135,17 +223,19 @@ public final class ModelTest {
         }
     }
 
-    private String number(int bound) {
-        int value = random.nextInt(25) == 0 ? random.nextInt(101) : random.nextInt(bound);
-        return (value < 10 && random.nextInt(5) == 0 ? "0" : "") + value;
+    /** A number of a text, now and then one that is out of every range or of three digits. */
+    private String number(int value) {
+        int shown = value < 0 || value > 99 || random.nextInt(60) == 0 ? random.nextInt(101) : value;
+        return (shown < 10 && random.nextInt(5) == 0 ? "0" : "") + shown;
     }
 
     private String order() {
         int kind = random.nextInt(9);
         if (kind < 4) {
-            return "w" + number(30) + "," + number(styles) + "," + number(1 + longest) + ";";
+            return "w" + number(drawName(false)) + "," + number(drawStyle()) + "," + number(drawLength()) + ";";
         }
-        return kind < 6 ? "d" + number(30) + ";" : kind < 8 ? "c" + number(4) + ";" : "z" + number(40) + ";";
+        return kind < 6 ? "d" + number(drawName(true)) + ";"
+                : kind < 8 ? "c" + number(random.nextInt(3)) + ";" : "z" + number(drawPage(true)) + ";";
     }
 
     private void playText() {
@@ -203,7 +293,7 @@ public final class ModelTest {
         }
     }
 
-    /** Everything that can be asked: more calls than an object is used for, but they change nothing. */
+    /** Everything that can be asked. */
     private void compareAll() {
         for (int what = -1; what <= 23; what++) {
             for (int name = 0; name < 30; name++) {
