@@ -13,6 +13,7 @@ public final class ChangesTest {
         questions();
         history();
         whatIsRecorded();
+        changesAndUndos();
         texts();
         whichError();
         errorsOfUsedDisk();
@@ -171,6 +172,37 @@ public final class ChangesTest {
                 counts = 39 1 0 0 0 3000 1 0 0 1 39 1 19
                 pages 0 = 0
                 page 1 = 1 0 - - - - 0
+                """);
+    }
+
+    private static void changesAndUndos() {
+        Sentences.test("each change records everything before it: a change and its undo, an empty history", """
+                undoes write 0 6 3 0 = 0 / undo = 0
+                undoes wipe 0 = 0 / undo = 0
+                undoes wipeAll = 0 / undo = 0
+                undoes play = 0 / undo = 0
+                """);
+        Sentences.test("each change records everything before it: a change and its undo, each as the next one", """
+                undoes write 0 6 3 0 = 0
+                undoes delete 0 = 40
+                undoes wipe 2 = 2
+                undoes claim 0 -1 = 2
+                """);
+        Sentences.test("each change records everything before it: the others, each as the next one", """
+                write 0 6 3 0 = 0
+                text d0;z1;
+                undoes play = 2
+                undoes wipe 2 = 2
+                undoes wipeAll = 1
+                """);
+        Sentences.test("each change records everything before it: a change and its undo, a full history", Desks.BUSY + """
+                undoes claim 0 3 = 1 / undoes wipe 9 = 1 / undoes write 0 2 12 2 = 34 / undoes delete 20 = 26
+                undoes play = 15 / undoes wipeAll = 17 / undoes wipe 39 = 0 / undoes write 9 9 9 1 = 0
+                undoes delete 9 / undoes claim 0 -1 = 9 / undoes wipeAll / undoes play
+                """);
+        Sentences.test("each change records everything before it: a change and its undo, a full disk", Desks.FULL + """
+                undoes wipeAll = 0 / undoes delete 0 = 12 / undoes claim 0 29 = 12 / undoes play = 0
+                undoes delete 3 = 4 / undoes wipe 36 = 1 / undoes write 3 2 4 2 = 39
                 """);
     }
 

@@ -12,6 +12,7 @@ import java.util.Set;
  * write 0 3 4 0 = 0         a call and the answer that is due; without one: any answer but an error
  * keeps count 0 = 40        a call after which the state must be as it was; each call that is due to
  *                           answer with an error is such a one, also without the word
+ * undoes wipe 0 = 1         a change that undo takes back wholly; it is done
  * delete 0 / delete 1       several steps
  * # in 0..3 9: wipe # = 0   steps for each of the numbers; beside # also #+2 and 9-#
  * lowest 4, highest 4       only so many pages are free then, the journal is empty; first of all, on a new object
@@ -36,6 +37,9 @@ final class Sentences {
             Set.of("write", "delete", "wipe", "wipeAll", "claim", "undo", "type", "clearText", "play");
     /** What later calls answer is free. */
     private static final int CALLS = 512;
+    /** What count is asked for the states of the history, and how many of them it keeps. */
+    private static final int STATES = 11;
+    private static final int MOST_STATES = 4;
 
     private static int tests = 0;
     private static int failed = 0;
@@ -113,7 +117,7 @@ final class Sentences {
             return new Call(name, numbers).on(desk);
         }
 
-        /** The answers from which the whole state can be told, but for the signs of the text, which play tells. */
+        /** The answers from which the state can be told, but for the history, which is seen by undos. */
         List<Integer> portrait() {
             List<Integer> answers = new ArrayList<>();
             for (int page = 0; page < 40; page++) {
@@ -134,7 +138,9 @@ final class Sentences {
                 }
             }
             for (int what = 0; what <= 12; what++) {
-                answers.add(ask("count", what));
+                if (what != STATES) {
+                    answers.add(ask("count", what));
+                }
             }
             for (int what = 0; what <= 1; what++) {
                 answers.add(ask("bestGuesses", what));
@@ -234,10 +240,14 @@ final class Sentences {
         }
         for (String step : steps.split(" / ")) {
             boolean keeps = step.startsWith("keeps ");
-            String call = keeps ? step.substring("keeps ".length()) : step;
+            boolean undoes = step.startsWith("undoes ");
+            String call = keeps || undoes ? step.substring(step.indexOf(' ') + 1) : step;
             int equal = call.indexOf(" =");
             String[] asked = (equal < 0 ? call : call.substring(0, equal)).strip().split(" +");
             int[] numbers = numbers(String.join(" ", asked).substring(asked[0].length()), value);
+            if (undoes) {
+                compareUndone(new Call(asked[0], numbers));
+            }
             step(asked[0], numbers, equal < 0 ? null : numbers(call.substring(equal + 2), value), keeps);
         }
     }
@@ -352,19 +362,40 @@ final class Sentences {
 
     /** Compares objects that did not get the call with others that did, now and after each number of undos. */
     private void compareState(Call call) {
-        List<Call> more = new ArrayList<>(done);
-        more.add(call);
-        if (before == null) {
-            before = portraits(done);
-        }
-        if (!before.equals(portraits(more))) {
+        if (!portraitsBefore().equals(portraits(doneAnd(call)))) {
             fail(call + " changed something");
         }
     }
 
+    /** A change and its undo leave the history as it was, but for the oldest state, if there were 4. */
+    private void compareUndone(Call call) {
+        List<List<Integer>> due = new ArrayList<>(portraitsBefore());
+        if (due.get(MOST_STATES).size() > 1) {
+            due.remove(MOST_STATES);
+            due.add(due.get(due.size() - 1));
+        }
+        if (!due.equals(portraits(doneAnd(call, new Call("undo"))))) {
+            fail("undo did not take back " + call);
+        }
+    }
+
+    private List<Call> doneAnd(Call... calls) {
+        List<Call> more = new ArrayList<>(done);
+        more.addAll(List.of(calls));
+        return more;
+    }
+
+    private List<List<Integer>> portraitsBefore() {
+        if (before == null) {
+            before = portraits(done);
+        }
+        return before;
+    }
+
+    /** The state, those of the history from the latest one on, and the error of one undo more. */
     private static List<List<Integer>> portraits(List<Call> calls) {
         List<List<Integer>> portraits = new ArrayList<>();
-        for (int undone = 0; undone <= 5; undone++) {
+        for (int undone = 0; undone <= MOST_STATES + 1; undone++) {
             Asker asker = new Asker(calls, undone);
             portraits.add(asker.lastUndo < 0 ? List.of(asker.lastUndo) : asker.portrait());
         }
