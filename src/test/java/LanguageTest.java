@@ -37,6 +37,7 @@ public final class LanguageTest {
         innerClasses();
         words();
         lengths();
+        objects();
         System.out.println(wrong == 0 ? "the rules are kept" : wrong + " rules are broken");
         if (wrong != 0) {
             System.exit(1);
@@ -132,6 +133,14 @@ public final class LanguageTest {
         Matcher system = Pattern.compile("\\bSystem\\.(\\w+)").matcher(source);
         while (system.find()) {
             check(system.group(1).equals("arraycopy"), "System." + system.group(1));
+        }
+    }
+
+    /** All objects are made with the desk, so that calls leave the room as it is. */
+    private static void objects() throws IOException {
+        for (String line : withoutComments(Files.readString(SOURCE)).split("\n")) {
+            check(!line.matches(".*\\bnew\\b.*") || line.strip().startsWith("private final ")
+                    || line.strip().equals("states[k] = new Disk();"), "a call makes an object: " + line.strip());
         }
     }
 
