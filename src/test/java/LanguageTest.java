@@ -29,13 +29,22 @@ public final class LanguageTest {
         "hashCode", "getClass", "Random", "Thread", "nanoTime", "currentTimeMillis", "getenv", "getProperty",
         "addExact", "subtractExact", "multiplyExact", "toIntExact", "protected", "wait", "notify"};
 
+    private static final Set<String> LIBRARY = Set.of("Math.max", "Math.min", "Long.bitCount", "System.arraycopy");
+
+    /** The words of the interface, each with the calls behind it. */
+    private static final String[] GROUPS = {"---- files", "write", "delete", "wipe", "wipeAll", "fileOf", "pageOf",
+        "journalOf", "---- guesses", "guessOf", "claim", "bestGuesses", "would", "gentlest", "count", "undo",
+        "---- texts", "type", "clearText", "fault", "play"};
+
     private static int wrong = 0;
 
     public static void main(String[] args) throws IOException {
         face();
         constants();
         innerClasses();
+        groups();
         words();
+        library();
         lengths();
         objects();
         System.out.println(wrong == 0 ? "the rules are kept" : wrong + " rules are broken");
@@ -107,6 +116,9 @@ public final class LanguageTest {
             check(Modifier.isStatic(modifiers) && !Modifier.isPublic(modifiers) && !Modifier.isProtected(modifiers),
                     one.getName() + " is static and not public");
             check(one.getDeclaredFields().length <= 20, one.getName() + " has some twenty fields");
+            for (Field field : one.getDeclaredFields()) {
+                check(!Modifier.isStatic(field.getModifiers()), "no static state: " + field);
+            }
             for (Method method : one.getDeclaredMethods()) {
                 check(!faceNames.contains(method.getName()), "no other method is named " + method.getName());
                 check(method.getParameterCount() <= 7, "seven parameters: " + method.getName());
@@ -130,9 +142,22 @@ public final class LanguageTest {
         check(!source.contains("->") && !source.contains("::"), "no lambda, no method reference");
         check(!source.contains("\""), "no texts");
         check(!source.contains("@"), "no annotations");
-        Matcher system = Pattern.compile("\\bSystem\\.(\\w+)").matcher(source);
-        while (system.find()) {
-            check(system.group(1).equals("arraycopy"), "System." + system.group(1));
+    }
+
+    private static void groups() throws IOException {
+        String source = Files.readString(SOURCE);
+        List<String> found = new ArrayList<>();
+        Matcher heads = Pattern.compile("\n    (?:// (---- \\w+)\n|public int (\\w+)\\()").matcher(source);
+        while (heads.find()) {
+            found.add(heads.group(1) == null ? heads.group(2) : heads.group(1));
+        }
+        check(found.equals(List.of(GROUPS)), "the calls in the groups of the interface: " + found);
+    }
+
+    private static void library() throws IOException {
+        Matcher use = Pattern.compile("\\b[A-Z]\\w*\\.\\w+").matcher(withoutComments(Files.readString(SOURCE)));
+        while (use.find()) {
+            check(LIBRARY.contains(use.group()), "of the library: " + use.group());
         }
     }
 
